@@ -233,7 +233,7 @@ public final class RangePlanner {
             return NONE;
         }
         plan.lay(questions, order, b, NONE);
-        return i == NONE ? plan.row.size : plan.row.question(i);
+        return i == NONE ? plan.sorted.size : plan.sorted.question(i);
     }
 
     public int moves(int order, int b, int what) {
@@ -320,7 +320,7 @@ public final class RangePlanner {
             return NONE;
         }
         undoing.lay(questions, b);
-        return i == NONE ? undoing.row.size : undoing.row.question(i);
+        return i == NONE ? undoing.sorted.size : undoing.sorted.question(i);
     }
 
     public int adds(int b, int what) {
@@ -347,8 +347,8 @@ public final class RangePlanner {
         }
         plan.lay(questions, order, block, NONE);
         int made = 0;
-        for (int i = walker.cameTo; i < plan.row.size; i++) {
-            questions.aim(walker, plan.row.question(i));
+        for (int i = walker.cameTo; i < plan.sorted.size; i++) {
+            questions.aim(walker, plan.sorted.question(i));
             made += walker.make(n - made);
             if (walker.distance() > 0) {
                 break;
@@ -377,10 +377,10 @@ public final class RangePlanner {
                 return walker.now;
             case 3:
                 plan.lay(questions, order, block, NONE);
-                return Math.min(walker.cameTo, plan.row.size);
+                return Math.min(walker.cameTo, plan.sorted.size);
             case 4:
                 plan.lay(questions, order, block, NONE);
-                return plan.row.question(walker.cameTo);
+                return plan.sorted.question(walker.cameTo);
             case 5:
                 return walker.ends;
             case 6:
@@ -509,7 +509,7 @@ public final class RangePlanner {
             return NONE;
         }
         int blocks = (row.size + b - 1) / b;
-        return 3 * b * plan.row.size + 2 * (blocks + 1) * (row.size + b);
+        return 3 * b * plan.sorted.size + 2 * (blocks + 1) * (row.size + b);
     }
 
     private int busiestCell() {
@@ -854,15 +854,15 @@ public final class RangePlanner {
     private static final class Plan {
         private static final int HIGHEST = NUMBERS - 1;
 
-        private final Sorted row = new Sorted();
+        private final Sorted sorted = new Sorted();
         private final Window probe = new Window();
         private int most;
 
         void lay(Questions questions, int order, int b, int without) {
-            row.size = 0;
+            sorted.size = 0;
             for (int q = 0; q < questions.size; q++) {
                 if (q != without && questions.isPlanned(q)) {
-                    row.insert(keyOf(questions, q, order, b));
+                    sorted.insert(keyOf(questions, q, order, b));
                 }
             }
         }
@@ -910,8 +910,8 @@ public final class RangePlanner {
         void follow(Questions questions) {
             probe.begin();
             most = 0;
-            for (int i = 0; i < row.size; i++) {
-                questions.aim(probe, row.question(i));
+            for (int i = 0; i < sorted.size; i++) {
+                questions.aim(probe, sorted.question(i));
                 most = Math.max(most, probe.make(probe.distance()));
             }
         }
@@ -919,12 +919,12 @@ public final class RangePlanner {
         /** Makes the first MOVES; to which QUESTION the probe is on its way then, NONE: there are no more. */
         int goAhead(Questions questions, int moves) {
             probe.begin();
-            int left = moves;
-            for (int i = 0; i < row.size; i++) {
-                questions.aim(probe, row.question(i));
-                left -= probe.make(left);
+            int rest = moves;
+            for (int i = 0; i < sorted.size; i++) {
+                questions.aim(probe, sorted.question(i));
+                rest -= probe.make(rest);
                 if (probe.distance() > 0) {
-                    return row.question(i);
+                    return sorted.question(i);
                 }
             }
             return NONE;
@@ -1056,10 +1056,10 @@ public final class RangePlanner {
 
         /** COSTS to each QUESTION of THE PLAN, as the first one of a WINDOW and along the whole of it. */
         void measure(Plan plan, Questions questions, int weight) {
-            size = Math.min(plan.row.size, MOST_QUESTIONS);
+            size = Math.min(plan.sorted.size, MOST_QUESTIONS);
             plan.probe.begin();
             for (int i = 0; i < size; i++) {
-                int q = plan.row.question(i);
+                int q = plan.sorted.question(i);
                 fresh.begin();
                 questions.aim(fresh, q);
                 fresh.make(fresh.distance());
@@ -1082,17 +1082,17 @@ public final class RangePlanner {
             for (int from = 0; from <= size; from++) {
                 least[0][from] = from == size ? 0 : IMPOSSIBLE;
             }
-            for (int left = 1; left <= k && left <= MOST_WORKERS; left++) {
+            for (int hands = 1; hands <= k && hands <= MOST_WORKERS; hands++) {
                 for (int from = 0; from <= size; from++) {
-                    least[left][from] = leastFrom(left, from);
+                    least[hands][from] = leastFrom(hands, from);
                 }
             }
         }
 
-        private int leastFrom(int left, int from) {
+        private int leastFrom(int hands, int from) {
             int best = IMPOSSIBLE;
             for (int to = from; to <= size; to++) {
-                best = Math.min(best, Math.max(costOfRow(from, to), least[left - 1][to]));
+                best = Math.min(best, Math.max(costOfRow(from, to), least[hands - 1][to]));
             }
             return best;
         }
@@ -1114,9 +1114,9 @@ public final class RangePlanner {
             return taken;
         }
 
-        private int furthest(int from, int left, int limit) {
+        private int furthest(int from, int hands, int limit) {
             for (int to = size; to > from; to--) {
-                if (costOfRow(from, to) <= limit && least[left][to] <= limit) {
+                if (costOfRow(from, to) <= limit && least[hands][to] <= limit) {
                     return to;
                 }
             }
@@ -1126,19 +1126,19 @@ public final class RangePlanner {
 
     /** THE UNDOING of a BLOCK. */
     private static final class Undoing {
-        private final Sorted row = new Sorted();
+        private final Sorted sorted = new Sorted();
         private int adds;
         private int groups;
         private int deepest;
 
         void lay(Questions questions, int b) {
-            row.size = 0;
+            sorted.size = 0;
             if (b < 1) {
                 return;
             }
             for (int q = 0; q < questions.size; q++) {
                 if (!questions.isPlanned(q)) {
-                    row.insert(Sorted.key(questions.time[q], questions.first[q] / b, questions.last[q], q));
+                    sorted.insert(Sorted.key(questions.time[q], questions.first[q] / b, questions.last[q], q));
                 }
             }
         }
@@ -1149,9 +1149,9 @@ public final class RangePlanner {
             deepest = 0;
             int border = 0;
             int next = 0;
-            for (int i = 0; i < row.size && b > 0; i++) {
-                int q = row.question(i);
-                if (!row.goesOn(i)) {
+            for (int i = 0; i < sorted.size && b > 0; i++) {
+                int q = sorted.question(i);
+                if (!sorted.goesOn(i)) {
                     groups++;
                     border = Math.min(cells, questions.first[q] / b * b + b);
                     next = border;
@@ -1277,15 +1277,15 @@ public final class RangePlanner {
                 return refuse(SECOND_ROW);
             }
             next();
-            boolean more = readCell();
-            while (more && sort == COMMA && row.size <= MOST_CELLS) {
+            boolean right = readCell();
+            for (int cells = 1; right && sort == COMMA && cells <= MOST_CELLS; cells++) {
                 next();
-                more = readCell();
+                right = readCell();
             }
-            if (more && row.size < LEAST_CELLS && (sort == SEMICOLON || sort == END)) {
+            if (right && row.size < LEAST_CELLS && (sort == SEMICOLON || sort == END)) {
                 return refuse(LACKS);
             }
-            return more;
+            return right;
         }
 
         private boolean readCell() {
