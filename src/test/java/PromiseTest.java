@@ -33,6 +33,7 @@ public final class PromiseTest {
         all.moves();
         all.best();
         all.split();
+        all.aFullPlan();
         all.move();
         all.savesAndWould();
         all.undone();
@@ -597,6 +598,32 @@ public final class PromiseTest {
         due("no such WORKER", y.split(4, 5), NONE);
         due("none", new RangePlanner().split(3, 0), 0);
         due("none", new RangePlanner().split(3, 3), 0);
+    }
+
+    private void aFullPlan() {
+        RangePlanner x = new RangePlanner();
+        for (int k = 0; k < 12; k++) {
+            x.ask(0, 0, 0, 0);
+            x.ask(1, 0, 9, 0);
+        }
+        x.set(0, 16);
+        check.about("17 split, 24 QUESTIONS");
+        // 1 or 10 to the first one of a row, 9 to each other.
+        due("one", x.split(1, 0), 1 + 23 * 9);
+        due("two", x.split(2, 0), 1 + 11 * 9);
+        due("three", x.split(3, 0), 1 + 7 * 9);
+        due("four", x.split(4, 0), 1 + 5 * 9);
+        for (int worker = 1; worker <= 4; worker++) {
+            due("four", x.split(4, worker), 6);
+        }
+        check.about("20 would, 24 QUESTIONS");
+        due("the last one of 25", x.would(0, 0, 0, 0), 9);
+        due("the COST stays", x.moves(0, 16, 2), 208);
+        check.about("19 saves, 24 QUESTIONS");
+        due("the last one", x.saves(23), 9);
+        due("one in between", x.saves(12), 18);
+        check.about("14 planned, 24 QUESTIONS");
+        due("the last one", x.planned(0, 16, 23), 23);
     }
 
     private void move() {

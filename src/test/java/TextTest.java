@@ -88,6 +88,13 @@ public final class TextTest {
         fault("row 1,2;ask ^missings 0 1", FORM);
         fault("row 1,2;ask ^unlikely 0 1", FORM);
         fault("^rowrowrow 1,2", FORM);
+        fault("^rowz 1,2", FORM);
+        fault("row 1,2;ask ^asum 0 1", FORM);
+        fault("row 1,2;ask sum^{ 0 1", FORM);
+        fault("row 1,2;ask sum^` 0 1", FORM);
+        fault("row 1,2;ask sum 0 1^:", FORM);
+        fault("row 1,2;ask sum 0 1^/", FORM);
+        good("row 0,9;set 1 09;ask sum 0 1", 3);
         fault("row 1,2;ask ^sumsum 0 1", FORM);
         good("row 00,01", 1);
         good("row0,1;ask sum0 1at0;set0 1", 3);
