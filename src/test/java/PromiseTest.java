@@ -168,6 +168,11 @@ public final class PromiseTest {
         due("32 CHANGES", x.count(1), 32);
         due("24 QUESTIONS", Check.tell(x, "row 1,2" + ";ask sum 0 1".repeat(24)), 25);
         due("24 QUESTIONS", x.count(2), 24);
+        due("600 bytes", Check.tell(x, "row 1,2;ask sum 0 1" + " ".repeat(581)), 2);
+        due("600 bytes", Check.tell(x, " ".repeat(593) + "row 1,2"), 1);
+        due("600 bytes", Check.tell(x, "row 1,2;ask" + " ".repeat(582) + "missing"), Check.fault(600, 1));
+        due("600 bytes", Check.tell(x, " ".repeat(600)), Check.fault(600, 1));
+        due("600 bytes", Check.tell(x, "row 1,2" + " ".repeat(592) + ";"), Check.fault(600, 1));
     }
 
     private void textRefused() {
@@ -468,6 +473,9 @@ public final class PromiseTest {
         due("of another first", x.of(5, 4), 5);
         due("how many", x.of(2, 5), 3);
         due("how many", x.of(1, 5), 1);
+        x.drop();
+        due("how many, one of them dropped", x.of(2, 5), 2);
+        x.back();
         due("none such", x.of(7, 0), NONE);
         due("none such", x.of(-1, 4), NONE);
         due("what 6", x.of(0, 6), NONE);
