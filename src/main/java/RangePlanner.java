@@ -346,6 +346,8 @@ public final class RangePlanner {
             return NONE;
         }
         plan.lay(questions, order, block, NONE);
+        // Of a PLAN that has fewer all are DONE, and the WALK goes on behind these when it has more again.
+        walker.cameTo = Math.min(walker.cameTo, plan.sorted.size);
         int made = 0;
         for (int i = walker.cameTo; i < plan.sorted.size; i++) {
             questions.aim(walker, plan.sorted.question(i));

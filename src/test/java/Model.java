@@ -748,6 +748,7 @@ final class Model {
             return -1;
         }
         List<Asked> plan = plan(questions, order, block);
+        came = done();
         int made = 0;
         while (came < plan.size()) {
             Asked to = plan.get(came);

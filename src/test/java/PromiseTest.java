@@ -41,6 +41,8 @@ public final class PromiseTest {
         all.walk();
         all.walkOverATellingAnew();
         all.doneOfAPlanThatShrinks();
+        all.walkAlongAPlanThatShrank();
+        all.walkBehindTheLastDrop();
         all.home();
         all.window();
         all.holdsAndTells();
@@ -801,6 +803,50 @@ public final class PromiseTest {
         x.back();
         due("as many as it came to", x.window(3), 3);
         due("no MOVE", x.walk(5), 0);
+    }
+
+    private void walkAlongAPlanThatShrank() {
+        check.about("23 walk along fewer QUESTIONS, then more");
+        RangePlanner x = told("row 1,2,3,4,5,6;ask sum 0 1;ask sum 2 3;ask sum 4 5");
+        x.walk(400);
+        dueRow("window", windowOf(x), 4, 5, 0, 3, NONE, 10, 0, 2);
+        x.drop();
+        x.drop();
+        due("refused", x.walk(0), NONE);
+        due("refused", x.walk(401), NONE);
+        x.back();
+        due("a refused call leaves what is DONE", x.window(3), 2);
+        x.drop();
+        due("to the end of THE PLAN as it is", x.walk(1), 0);
+        dueRow("the WINDOW stays", windowOf(x), 4, 5, 0, 1, NONE, 10, 0, 2);
+        x.back();
+        dueRow("that many are DONE", windowOf(x), 4, 5, 0, 1, 1, 10, 0, 2);
+        x.back();
+        dueRow("that many are DONE", windowOf(x), 4, 5, 0, 1, 1, 10, 0, 2);
+        due("down to the second and up to the last", x.walk(400), 4 + 4);
+        dueRow("window", windowOf(x), 4, 5, 0, 3, NONE, 18, 0, 2);
+    }
+
+    private void walkBehindTheLastDrop() {
+        check.about("23 walk along no QUESTIONS, then one");
+        RangePlanner x = new RangePlanner();
+        x.ask(0, 0, 0, 0);
+        due("to the first", x.walk(1), 1);
+        x.drop();
+        due("none there", x.walk(1), 0);
+        due("none DONE", x.window(3), 0);
+        x.ask(2, 0, 5, 0);
+        due("one that is not of THE PLAN", x.walk(1), 0);
+        x.ask(0, 0, 1, 0);
+        due("the next one", x.window(4), 1);
+        due("to it", x.walk(1), 1);
+        dueRow("window", windowOf(x), 0, 1, 0, 1, NONE, 2, 0, 1);
+        x.back();
+        due("its ask taken back, none there", x.walk(1), 0);
+        x.ask(1, 0, 1, 0);
+        due("the next one", x.window(4), 1);
+        due("there by no MOVE", x.walk(1), 0);
+        due("DONE", x.window(3), 1);
     }
 
     private void home() {
