@@ -25,6 +25,13 @@ final class Check {
         due(call, got ? 1 : 0, want ? 1 : 0);
     }
 
+    void dueRow(String call, int[] got, int... want) {
+        for (int i = 0; i < want.length; i++) {
+            due(call + " no. " + i, i < got.length ? got[i] : Integer.MIN_VALUE, want[i]);
+        }
+        due(call + ", how many", got.length, want.length);
+    }
+
     boolean isClean() {
         return wrong == 0;
     }

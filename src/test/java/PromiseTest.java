@@ -56,40 +56,11 @@ public final class PromiseTest {
     }
 
     private static RangePlanner told(String text) {
-        RangePlanner x = new RangePlanner();
-        Check.tell(x, text);
-        return x;
+        return Look.told(text);
     }
 
     private void dueRow(String call, int[] got, int... want) {
-        for (int i = 0; i < want.length; i++) {
-            due(call + " no. " + i, i < got.length ? got[i] : MIN, want[i]);
-        }
-        due(call + ", how many", got.length, want.length);
-    }
-
-    private static int[] plan(RangePlanner x, int order, int b) {
-        int[] row = new int[x.planned(order, b, NONE)];
-        for (int i = 0; i < row.length; i++) {
-            row[i] = x.planned(order, b, i);
-        }
-        return row;
-    }
-
-    private static int[] undoing(RangePlanner x, int b) {
-        int[] row = new int[x.undone(b, NONE)];
-        for (int i = 0; i < row.length; i++) {
-            row[i] = x.undone(b, i);
-        }
-        return row;
-    }
-
-    private static int[] windowOf(RangePlanner x) {
-        int[] row = new int[8];
-        for (int what = 0; what < 8; what++) {
-            row[what] = x.window(what);
-        }
-        return row;
+        check.dueRow(call, got, want);
     }
 
     private void newObject() {
@@ -104,7 +75,7 @@ public final class PromiseTest {
             due("at", x.at(i, 0), 0);
         }
         due("at behind the last", x.at(16, 0), NONE);
-        dueRow("window", windowOf(x), 0, -1, 0, 0, NONE, 0, 0, 0);
+        dueRow("window", Look.window(x), 0, -1, 0, 0, NONE, 0, 0, 0);
         new RangePlanner().cell(0, 7);
         due("objects are apart", x.at(0, 0), 0);
     }
@@ -152,7 +123,7 @@ public final class PromiseTest {
         due("ACTS", x.count(9), 0);
         due("THE TAPE is empty", x.count(10), 0);
         check.due("back", x.back(), false);
-        dueRow("window", windowOf(x), 0, -1, 0, 0, NONE, 0, 0, 0);
+        dueRow("window", Look.window(x), 0, -1, 0, 0, NONE, 0, 0, 0);
         due("blanks", Check.tell(x, " \n row\n07 ,  8 ;ask\nsum 0 1 ; set 1 63;ask which 0 1;ask parts 0 0 at 0\n "), 5);
         due("07 is 7", x.at(0, 0), 7);
         due("TIME of none", x.of(0, 3), 0);
@@ -491,9 +462,9 @@ public final class PromiseTest {
             + ";ask sum 3 5 at 0;ask unlike 2 7 at 1;ask power 0 3 at 2;ask missing 1 2 at 1;ask pairs 0 1 at 2"
             + ";ask sum 2 7 at 0;ask sum 3 6 at 1;ask sum 1 7 at 0;ask sum 1 6 at 2;ask often 0 0;ask which 0 0"
             + ";ask parts 0 0;ask sum 2 5 at 0;ask sum 0 2 at 1");
-        dueRow("ORDER 0", plan(x, 0, 2), 4, 3, 13, 2, 7, 8, 0, 12, 5, 1, 6);
-        dueRow("ORDER 1", plan(x, 1, 2), 4, 2, 3, 13, 8, 7, 1, 6, 5, 0, 12);
-        dueRow("ORDER 0, one block", plan(x, 0, 60), 0, 5, 7, 12, 1, 3, 6, 13, 2, 4, 8);
+        dueRow("ORDER 0", Look.plan(x, 0, 2), 4, 3, 13, 2, 7, 8, 0, 12, 5, 1, 6);
+        dueRow("ORDER 1", Look.plan(x, 1, 2), 4, 2, 3, 13, 8, 7, 1, 6, 5, 0, 12);
+        dueRow("ORDER 0, one block", Look.plan(x, 0, 60), 0, 5, 7, 12, 1, 3, 6, 13, 2, 4, 8);
         due("behind the last", x.planned(0, 2, 11), NONE);
         due("i -2", x.planned(0, 2, -2), NONE);
         due("i MAX", x.planned(0, 2, MAX), NONE);
@@ -512,14 +483,14 @@ public final class PromiseTest {
             x.ask(0, e[0], e[1], 0);
         }
         int[] want = {7, 5, 3, 6, 1, 9, 2, 8, 4, 0};
-        dueRow("BLOCK 1", plan(x, 2, 1), want);
+        dueRow("BLOCK 1", Look.plan(x, 2, 1), want);
         RangePlanner y = told("row 0,0,0,0,0,0,0,0;set 0 1");
         for (int[] e : ends) {
             y.ask(1, 2 * e[0], 2 * e[1] + 1, 0);
         }
-        dueRow("BLOCK 2", plan(y, 2, 2), want);
+        dueRow("BLOCK 2", Look.plan(y, 2, 2), want);
         RangePlanner z = told("row 0,0,0,0;set 0 1;ask sum 0 1 at 1;ask sum 1 3 at 0;ask sum 0 3 at 0;ask sum 0 0");
-        dueRow("by TIME, then numbers", plan(z, 2, 4), 1, 2, 0, 3);
+        dueRow("by TIME, then numbers", Look.plan(z, 2, 4), 1, 2, 0, 3);
     }
 
     private void moves() {
@@ -658,7 +629,7 @@ public final class PromiseTest {
         due("what -1", x.move(0, -1), NONE);
         RangePlanner v = told("row 0,0,0,0,0;set 0 1;set 1 1;ask sum 1 2 at 2;ask sum 0 4 at 1");
         v.set(0, 3);
-        dueRow("the PLAN", plan(v, 0, 3), 0, 1);
+        dueRow("the PLAN", Look.plan(v, 0, 3), 0, 1);
         int[][] more = {{4, 0, 0}, {4, 1, 0}, {0, 0, 1}, {1, 3, 1}, {1, 4, 1}, {5, 1, 1}};
         for (int i = 0; i < more.length; i++) {
             for (int what = 0; what < 3; what++) {
@@ -709,9 +680,9 @@ public final class PromiseTest {
         RangePlanner x = told("row 0,0,0,0,0,0,0,0;set 0 1"
             + ";ask often 3 5;ask which 2 7 at 0;ask parts 0 3 at 1;ask sum 0 7;ask often 1 2 at 1;ask which 2 4 at 1"
             + ";ask often 0 2 at 1;ask parts 3 3 at 0");
-        dueRow("BLOCK 2", undoing(x, 2), 7, 1, 4, 6, 2, 5, 0);
-        dueRow("BLOCK 8", undoing(x, 8), 7, 1, 4, 6, 2, 5, 0);
-        dueRow("BLOCK 1", undoing(x, 1), 1, 7, 6, 2, 4, 5, 0);
+        dueRow("BLOCK 2", Look.undoing(x, 2), 7, 1, 4, 6, 2, 5, 0);
+        dueRow("BLOCK 8", Look.undoing(x, 8), 7, 1, 4, 6, 2, 5, 0);
+        dueRow("BLOCK 1", Look.undoing(x, 1), 1, 7, 6, 2, 4, 5, 0);
         due("behind the last", x.undone(2, 7), NONE);
         due("i -2", x.undone(2, -2), NONE);
         due("BLOCK 0", x.undone(0, NONE), NONE);
@@ -751,11 +722,11 @@ public final class PromiseTest {
         due("n 401", x.walk(401), NONE);
         due("n MIN", x.walk(MIN), NONE);
         due("walk(4)", x.walk(4), 4);
-        dueRow("window", windowOf(x), 0, 3, 0, 0, 2, 4, 0, 3);
+        dueRow("window", Look.window(x), 0, 3, 0, 0, 2, 4, 0, 3);
         due("walk(1)", x.walk(1), 1);
-        dueRow("window", windowOf(x), 0, 3, 1, 1, 0, 4, 1, 4);
+        dueRow("window", Look.window(x), 0, 3, 1, 1, 0, 4, 1, 4);
         due("walk(1), and 1 by no MOVE", x.walk(1), 1);
-        dueRow("window", windowOf(x), 1, 3, 1, 3, NONE, 5, 1, 3);
+        dueRow("window", Look.window(x), 1, 3, 1, 3, NONE, 5, 1, 3);
         due("walk(400)", x.walk(400), 0);
         RangePlanner y = new RangePlanner();
         due("none", y.walk(400), 0);
@@ -776,18 +747,18 @@ public final class PromiseTest {
         RangePlanner x = told("row 1,2,3,4,5,6;ask sum 0 1;ask sum 2 3;ask sum 4 5");
         x.set(0, 1);
         due("to the second", x.walk(6), 6);
-        dueRow("window", windowOf(x), 2, 3, 0, 2, 2, 6, 0, 2);
+        dueRow("window", Look.window(x), 2, 3, 0, 2, 2, 6, 0, 2);
         x.ask(0, 0, 0, 0);
-        dueRow("THE PLAN", plan(x, 0, 1), 3, 0, 1, 2);
-        dueRow("that many of it are DONE", windowOf(x), 2, 3, 0, 2, 1, 6, 0, 2);
+        dueRow("THE PLAN", Look.plan(x, 0, 1), 3, 0, 1, 2);
+        dueRow("that many of it are DONE", Look.window(x), 2, 3, 0, 2, 1, 6, 0, 2);
         due("the window is there: DONE by no MOVE, then on", x.walk(1), 1);
-        dueRow("window", windowOf(x), 2, 4, 0, 3, 2, 7, 0, 3);
+        dueRow("window", Look.window(x), 2, 4, 0, 3, 2, 7, 0, 3);
         x.set(0, 6);
-        dueRow("SET anew", windowOf(x), 2, 4, 0, 3, 3, 7, 0, 3);
+        dueRow("SET anew", Look.window(x), 2, 4, 0, 3, 3, 7, 0, 3);
         due("to 3, the last one", x.walk(400), 2 + 2 + 2);
-        dueRow("window", windowOf(x), 0, 0, 0, 4, NONE, 13, 0, 1);
+        dueRow("window", Look.window(x), 0, 0, 0, 4, NONE, 13, 0, 1);
         x.drop();
-        dueRow("all are DONE", windowOf(x), 0, 0, 0, 3, NONE, 13, 0, 1);
+        dueRow("all are DONE", Look.window(x), 0, 0, 0, 3, NONE, 13, 0, 1);
     }
 
     private void doneOfAPlanThatShrinks() {
@@ -809,7 +780,7 @@ public final class PromiseTest {
         check.about("23 walk along fewer QUESTIONS, then more");
         RangePlanner x = told("row 1,2,3,4,5,6;ask sum 0 1;ask sum 2 3;ask sum 4 5");
         x.walk(400);
-        dueRow("window", windowOf(x), 4, 5, 0, 3, NONE, 10, 0, 2);
+        dueRow("window", Look.window(x), 4, 5, 0, 3, NONE, 10, 0, 2);
         x.drop();
         x.drop();
         due("refused", x.walk(0), NONE);
@@ -818,13 +789,13 @@ public final class PromiseTest {
         due("a refused call leaves what is DONE", x.window(3), 2);
         x.drop();
         due("to the end of THE PLAN as it is", x.walk(1), 0);
-        dueRow("the WINDOW stays", windowOf(x), 4, 5, 0, 1, NONE, 10, 0, 2);
+        dueRow("the WINDOW stays", Look.window(x), 4, 5, 0, 1, NONE, 10, 0, 2);
         x.back();
-        dueRow("that many are DONE", windowOf(x), 4, 5, 0, 1, 1, 10, 0, 2);
+        dueRow("that many are DONE", Look.window(x), 4, 5, 0, 1, 1, 10, 0, 2);
         x.back();
-        dueRow("that many are DONE", windowOf(x), 4, 5, 0, 1, 1, 10, 0, 2);
+        dueRow("that many are DONE", Look.window(x), 4, 5, 0, 1, 1, 10, 0, 2);
         due("down to the second and up to the last", x.walk(400), 4 + 4);
-        dueRow("window", windowOf(x), 4, 5, 0, 3, NONE, 18, 0, 2);
+        dueRow("window", Look.window(x), 4, 5, 0, 3, NONE, 18, 0, 2);
     }
 
     private void walkBehindTheLastDrop() {
@@ -840,7 +811,7 @@ public final class PromiseTest {
         x.ask(0, 0, 1, 0);
         due("the next one", x.window(4), 1);
         due("to it", x.walk(1), 1);
-        dueRow("window", windowOf(x), 0, 1, 0, 1, NONE, 2, 0, 1);
+        dueRow("window", Look.window(x), 0, 1, 0, 1, NONE, 2, 0, 1);
         x.back();
         due("its ask taken back, none there", x.walk(1), 0);
         x.ask(1, 0, 1, 0);
@@ -855,10 +826,10 @@ public final class PromiseTest {
         due("at home", x.home(), 0);
         due("walk", x.walk(400), 9);
         due("home", x.home(), 3 + 2 + 2 + 2);
-        dueRow("window", windowOf(x), 0, -1, 0, 0, 0, 14, 4, 0);
+        dueRow("window", Look.window(x), 0, -1, 0, 0, 0, 14, 4, 0);
         due("walk anew", x.walk(6), 6);
         due("on the way", x.home(), 4 + 1 + 1);
-        dueRow("window", windowOf(x), 0, -1, 0, 0, 0, 26, 4, 0);
+        dueRow("window", Look.window(x), 0, -1, 0, 0, 0, 26, 4, 0);
         due("it is no ACT", x.count(9), 0);
     }
 
@@ -866,7 +837,7 @@ public final class PromiseTest {
         check.about("25 window");
         RangePlanner x = told(SMALL + ";ask sum 1 2 at 1");
         x.walk(400);
-        dueRow("window", windowOf(x), 1, 2, 1, 1, NONE, 4, 1, 2);
+        dueRow("window", Look.window(x), 1, 2, 1, 1, NONE, 4, 1, 2);
         due("what 8", x.window(8), NONE);
         due("what -1", x.window(-1), NONE);
         due("what MAX", x.window(MAX), NONE);
@@ -934,21 +905,13 @@ public final class PromiseTest {
         x.weight(3);
         x.set(2, 11);
         x.feed(0, 0, 0, 0, 0);
-        dueRow("count", countsOf(x), 6, 2, 5, 3, 2, 11, 4, 4, 3, 2, 20);
+        dueRow("count", Look.counts(x), 6, 2, 5, 3, 2, 11, 4, 4, 3, 2, 20);
         due("count(11)", x.count(11), NONE);
         due("count(-1)", x.count(-1), NONE);
         due("count(MIN)", x.count(MIN), NONE);
         RangePlanner y = told(SMALL + ";ask sum 4 5;ask sum 1 2");
         due("the most", y.count(7), 1);
         due("the first such CELL", y.count(8), 1);
-        dueRow("at first", countsOf(new RangePlanner()), 16, 0, 0, 1, 1, 4, 0, 0, 0, 0, 0);
-    }
-
-    private static int[] countsOf(RangePlanner x) {
-        int[] row = new int[11];
-        for (int what = 0; what < 11; what++) {
-            row[what] = x.count(what);
-        }
-        return row;
+        dueRow("at first", Look.counts(new RangePlanner()), 16, 0, 0, 1, 1, 4, 0, 0, 0, 0, 0);
     }
 }
