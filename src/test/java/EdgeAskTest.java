@@ -14,6 +14,7 @@ public final class EdgeAskTest {
         all.answersAtTheirTimes();
         all.whichOfSeveral();
         all.missingAllThatAreThere();
+        all.partsJoinedTwice();
         all.atTheEnds();
         all.ofTheEnds();
         all.alikeOnes();
@@ -22,13 +23,16 @@ public final class EdgeAskTest {
         all.plannedByTheEdgesOfBlocks();
         all.plannedUpAndDown();
         all.plannedByTheCurve();
+        all.plannedByTheTurnsOfTheCurve();
         all.movesOfOne();
         all.movesOfMany();
+        all.movesOfFewerThanBefore();
         all.bounds();
         all.bestOfEqualOnes();
         all.bestOfTheGreatest();
         all.splitOfFew();
         all.splitByTheFirstRow();
+        all.splitOfFewerThanBefore();
         all.moveToTheLastCell();
         all.moveToTheFirstCell();
         all.moveThroughAllChanges();
@@ -40,6 +44,7 @@ public final class EdgeAskTest {
         all.addsOfTheLastBlock();
         all.addsOfGroups();
         all.addsOfAllCells();
+        all.addsOfFewerThanBefore();
         all.check.finish();
     }
 
@@ -159,6 +164,17 @@ public final class EdgeAskTest {
         RangePlanner y = Look.told("row 0,1,2,4,3");
         due("3 is not there", answers(y, 0, 3, 0)[5], 3);
         due("in whichever order", answers(y, 0, 4, 0)[5], 5);
+    }
+
+    private void partsJoinedTwice() {
+        check.about("\"parts: .. into how many parts all NODES fall\"");
+        RangePlanner x = Look.told("row 8,16,17,1,2,10,63,7,56,54,55");
+        due("1 and 0, 2 and 0, then 2 and 1", answers(x, 0, 2, 0)[6], 6);
+        due("the same the other way round", answers(x, 3, 5, 0)[6], 6);
+        due("both ways", answers(x, 0, 5, 0)[6], 6);
+        due("7 and 7, 0 and 7, 7 and 0", answers(x, 6, 8, 0)[6], 7);
+        due("6 and 6, 6 and 7", answers(x, 9, 10, 0)[6], 7);
+        due("all: 0 1 2 7 6 are one", answers(x, 0, 10, 0)[6], 4);
     }
 
     private void atTheEnds() {
@@ -296,6 +312,27 @@ public final class EdgeAskTest {
         dueRow("of one place: TIME, then numbers", Look.plan(x, 2, 1), 1, 3, 0, 2);
     }
 
+    /** All parts of six CELLS that stand together, numbered by first, then last. */
+    private static RangePlanner partsFrom(int least) {
+        RangePlanner x = Look.cells(60, 0);
+        for (int first = least; first < least + 6; first++) {
+            for (int last = first; last < least + 6; last++) {
+                x.ask(0, first, last, 0);
+            }
+        }
+        return x;
+    }
+
+    private void plannedByTheTurnsOfTheCurve() {
+        check.about("14 \"if q is 0: if p is 1, x is 63 - x, y is 63 - y; then x and y change places\"");
+        dueRow("0 to 5", Look.plan(partsFrom(0), 2, 1),
+            0, 6, 1, 2, 3, 8, 7, 11, 12, 15, 18, 19, 20, 17, 16, 13, 14, 10, 9, 4, 5);
+        dueRow("29 to 34", Look.plan(partsFrom(29), 2, 1),
+            0, 6, 11, 7, 2, 1, 14, 10, 5, 4, 3, 8, 9, 13, 12, 15, 16, 18, 20, 19, 17);
+        dueRow("54 to 59", Look.plan(partsFrom(54), 2, 1),
+            0, 6, 1, 10, 9, 4, 5, 2, 3, 8, 7, 11, 12, 15, 18, 20, 19, 17, 16, 13, 14);
+    }
+
     private void movesOfOne() {
         check.about("15 moves of one QUESTION");
         RangePlanner x = new RangePlanner();
@@ -334,6 +371,21 @@ public final class EdgeAskTest {
         due("what 4", x.moves(1, 60, 4), 4320 + 480);
         due("what 5", x.moves(1, 60, 5), NONE);
         due("what -1", x.moves(1, 60, -1), NONE);
+    }
+
+    private void movesOfFewerThanBefore() {
+        check.about("15 moves, of fewer QUESTIONS than before");
+        RangePlanner x = new RangePlanner();
+        x.ask(0, 0, 0, 0);
+        x.ask(0, 15, 15, 0);
+        moves("two", x, 1 + 30, 0, 31, 30);
+        due("a MOVE on the way to the second", x.move(9, 2), 1);
+        moves("two, behind that", x, 31, 0, 31, 30);
+        x.drop();
+        moves("one", x, 1, 0, 1, 1);
+        due("the first MOVE", x.move(0, 2), 0);
+        x.drop();
+        moves("none", x, 0, 0, 0, 0);
     }
 
     private void bounds() {
@@ -447,6 +499,34 @@ public final class EdgeAskTest {
             due("all in the first row", y.split(k, 1), 24);
             due("none in the last one", y.split(k, k), k == 1 ? 24 : 0);
         }
+    }
+
+    private void splitOfFewerThanBefore() {
+        check.about("17 split, of fewer QUESTIONS than before, of more WORKERS first");
+        RangePlanner x = new RangePlanner();
+        for (int q = 0; q < 8; q++) {
+            x.ask(0, 0, q % 2 == 0 ? 0 : 3, 0);
+        }
+        x.set(0, 60);
+        due("eight, four WORKERS", x.split(4, 0), 4);
+        due("eight, one WORKER", x.split(1, 0), 22);
+        x.back();
+        x.drop();
+        x.drop();
+        x.drop();
+        x.set(0, 60);
+        due("five, four WORKERS", x.split(4, 0), 4);
+        int[] four = {2, 2, 1, 0};
+        for (int worker = 1; worker <= 4; worker++) {
+            due("five, WORKER " + worker, x.split(4, worker), four[worker - 1]);
+        }
+        due("five, two WORKERS", x.split(2, 0), 7);
+        due("five, the first of two", x.split(2, 1), 3);
+        for (int q = 0; q < 5; q++) {
+            x.drop();
+        }
+        due("none", x.split(4, 0), 0);
+        due("none", x.split(4, 1), 0);
     }
 
     private void moveToTheLastCell() {
@@ -661,5 +741,15 @@ public final class EdgeAskTest {
         adds("BLOCK 1", x, 1, 59 + 24, 1, 60);
         adds("BLOCK 59", x, 59, 1 + 24 * 59, 1, 60);
         adds("BLOCK 60", x, 60, 24 * 60, 1, 60);
+    }
+
+    private void addsOfFewerThanBefore() {
+        check.about("22 adds, of fewer QUESTIONS than before");
+        RangePlanner x = eight(0, 1, 0, 7);
+        adds("two", x, 3, 2 + 8, 1, 8);
+        x.drop();
+        adds("one", x, 3, 2, 1, 2);
+        x.drop();
+        adds("none", x, 3, 0, 0, 0);
     }
 }

@@ -212,6 +212,10 @@ public final class EdgeTellTest {
         due("the other CELL", x.at(1, 1), 8);
         due("the first QUESTION", x.ask(0, 0, 1, NONE), 0);
         due("its ANSWER", x.answer(0), 17);
+        due("walk", x.walk(400), 3);
+        due("DONE", x.window(3), 1);
+        due("QUESTIONS again", Check.tell(x, "row 7,8;set 0 9;ask sum 0 1"), 3);
+        dueRow("none is DONE", Look.window(x), 0, -1, 0, 0, 0, 0, 0, 0);
         due("more CELLS again", Check.tell(x, "row 5" + ",6".repeat(59)), 1);
         due("the last one", x.at(59, 0), 6);
     }

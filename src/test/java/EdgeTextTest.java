@@ -17,8 +17,10 @@ public final class EdgeTextTest {
         all.blanksBetweenTokens();
         all.wordsTooLong();
         all.wordsTooShort();
+        all.otherWords();
         all.wholesTooLong();
         all.singleSigns();
+        all.otherSortsOfTokens();
         all.theEndOfEachPart();
         all.theEndBehindBlanks();
         all.cellsOutOfBounds();
@@ -153,6 +155,23 @@ public final class EdgeTextTest {
         fault("row 1,2;ask ask 0 1", 12, FORM);
     }
 
+    private void otherWords() {
+        check.about("\"TOKEN with which no such text goes on\", a letter of a WORD is another");
+        String text = "row 1,2;set 0 3;ask sum 0 1 at 1";
+        int word = 0;
+        for (int i = 0; i < text.length(); i++) {
+            if (isLetter(text.charAt(i))) {
+                word = i > 0 && isLetter(text.charAt(i - 1)) ? word : i;
+                fault(text.substring(0, i) + 'x' + text.substring(i + 1), word, FORM);
+            }
+        }
+        for (String kind : Look.KINDS) {
+            for (int i = 0; i < kind.length(); i++) {
+                fault("row 1,2;ask " + kind.substring(0, i) + 'x' + kind.substring(i + 1) + " 0 1", 12, FORM);
+            }
+        }
+    }
+
     private void wholesTooLong() {
         check.about("\"WHOLES of 1 to 2 digits that do\"");
         due("row 0,00", 1);
@@ -187,6 +206,34 @@ public final class EdgeTextTest {
         fault("row 1,2;ask sum 0,1", 17, FORM);
         fault("row 1,2;ask sum 0 1,at 0", 19, FORM);
         fault("row 1,2;ask sum 0 1;at 0", 20, FORM);
+    }
+
+    private void otherSortsOfTokens() {
+        check.about("\"the first byte that begins no TOKEN, or TOKEN with which no such text goes on\", at each place");
+        String[] tokens = {"row", "1", ",", "2", ";", "set", "0", "3", ";", "ask", "sum", "0", "1", "at", "1"};
+        String[] others = {"?", "A", "\u0000", "\u00ff", "\t", "abcdefgh", "000", "sum", "row", ";", ",", "0"};
+        for (int at = 0; at < tokens.length; at++) {
+            for (String other : others) {
+                StringBuilder text = new StringBuilder();
+                int place = 0;
+                for (int k = 0; k < tokens.length; k++) {
+                    place = k == at ? text.length() : place;
+                    text.append(k == at ? other : tokens[k]).append(' ');
+                }
+                if (!isOfOneSort(tokens[at], other)) {
+                    fault(text.toString(), place, FORM);
+                }
+            }
+        }
+    }
+
+    /** Whether the other one may stand there too, or is a FAULT of another sort. */
+    private static boolean isOfOneSort(String token, String other) {
+        boolean wholes = isDigit(token.charAt(0)) && other.equals("0");
+        boolean lines = (token.equals("set") || token.equals("ask")) && other.equals("row");
+        boolean signs = (token + other).equals(",;") || (token + other).equals(";,");
+        boolean without = token.equals("at") && other.equals(";");
+        return wholes || lines || signs || without || token.equals(other);
     }
 
     private void theEndOfEachPart() {
